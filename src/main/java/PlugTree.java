@@ -297,13 +297,13 @@ public final class PlugTree {
         for (int i = 0; i < RANGES; i++) {
             int k = card.type.order[i];
             int size = card.type.sizes[k];
-            places[k] = NONE;
+            int place = size > 0 ? trial.placeFor(size, begin, end) : 0;
+            if (place == NONE) {
+                return false;
+            }
+            places[k] = place;
             if (size > 0) {
-                places[k] = trial.placeFor(size, begin, end);
-                if (places[k] == NONE) {
-                    return false;
-                }
-                trial.add(places[k], places[k] + size);
+                trial.add(place, place + size);
             }
         }
         return true;
@@ -678,15 +678,14 @@ public final class PlugTree {
         int placeFor(int size, int from, int to) {
             int best = NONE;
             int bestLength = 0;
-            int begin = from;
             for (int i = 0; i <= count; i++) {
+                int begin = i > 0 ? ends[i - 1] : from;
                 int end = i < count ? begins[i] : to;
                 int at = (begin + size - 1) & -size;
                 if (at + size <= end && (best == NONE || end - begin < bestLength)) {
                     best = at;
                     bestLength = end - begin;
                 }
-                begin = i < count ? ends[i] : to;
             }
             return best;
         }
