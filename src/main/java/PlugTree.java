@@ -596,7 +596,9 @@ public final class PlugTree {
             x = 31 * x + done.word;
             done.outcome = x + done.op;
             unfinished--;
-            System.arraycopy(queue, 1, queue, 0, unfinished);
+            for (int i = 0; i < unfinished; i++) {
+                queue[i] = queue[i + 1];
+            }
             queue[unfinished] = null;
         }
     }

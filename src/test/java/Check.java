@@ -1,3 +1,5 @@
+import java.util.List;
+import java.util.function.Function;
 import java.util.function.Supplier;
 
 /** Counts and prints answers that are not the due ones. */
@@ -5,13 +7,18 @@ final class Check {
     static final String ARGUMENT = "IllegalArgumentException";
     static final String STATE = "IllegalStateException";
     private static int wrong;
-    private static int promise;
+    private static String place = "";
 
     private Check() {
     }
 
     static void promise(int number) {
-        promise = number;
+        place = "promise " + number;
+    }
+
+    /** The sentence of the document that the next checks hold the class to. */
+    static void sentence(String words) {
+        place = '"' + words + '"';
     }
 
     static void due(String what, long want, long got) {
@@ -35,9 +42,31 @@ final class Check {
         }
     }
 
+    /** After the scene the call throws just this exception, and nothing that can be asked then or later has changed. */
+    static void refused(String what, String want, Supplier<PlugTree> scene, Function<PlugTree, Object> call) {
+        Supplier<PlugTree> refusing = () -> {
+            PlugTree x = scene.get();
+            Picture.answer(x, call);
+            return x;
+        };
+        PlugTree x = scene.get();
+        thrown(what, want, () -> call.apply(x));
+        same(what + ", then", Picture.now(scene), Picture.now(refusing));
+        same(what + ", later", Picture.later(scene), Picture.later(refusing));
+    }
+
+    private static void same(String what, List<String> want, List<String> got) {
+        for (int i = 0; i < want.size(); i++) {
+            if (!want.get(i).equals(got.get(i))) {
+                say(what + ": " + got.get(i) + ", due is " + want.get(i));
+                return;
+            }
+        }
+    }
+
     static void say(String text) {
         wrong++;
-        System.out.println("promise " + promise + ": " + text);
+        System.out.println(place + ": " + text);
     }
 
     static void end() {

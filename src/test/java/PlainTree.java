@@ -59,7 +59,8 @@ final class PlainTree {
     }
 
     /** What the runs have come by, so that a test can see that they were not all of one kind. */
-    int fitted, grown, opened, refusedPower, refusedNeighbour, refusedRoom, paused, movedAll, waitedForRequest, unpaused;
+    int fitted, grown, opened, refusedPower, refusedNeighbour, refusedRoom;
+    int paused, movedAll, waitedForRequest, unpaused;
 
     private static final List<String> STATES = List.of("NEW", "WORKING", "PAUSED", "LEAVING", "GONE", "REFUSED");
     private final List<Node> nodes = new ArrayList<>();

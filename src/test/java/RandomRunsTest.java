@@ -1,17 +1,25 @@
 import java.util.ArrayList;
+import java.util.Arrays;
+import java.util.Collections;
 import java.util.List;
 import java.util.Random;
 import java.util.function.Function;
 
-/** Long random runs, always the same ones: after every call all that can be asked answers as PlainTree does. */
+/**
+ * Long random runs, always the same ones: every call answers as PlainTree does, and again and again all that can be
+ * asked does, on an object to which the run up to there has been played anew, so that none has more than 512 calls.
+ */
 public final class RandomRunsTest {
     private static final int RUNS = 600;
     private static final int CALLS = 200;
+    private static final int MOST_CALLS = 512;
+    private static final int BETWEEN_QUESTIONS = 3;
     private static int wrong;
     private final Random random;
     private final PlugTree tree = new PlugTree();
     private final PlainTree plain = new PlainTree();
     private final List<String> calls = new ArrayList<>();
+    private final List<Function<PlugTree, Number>> played = new ArrayList<>();
     private final int least;
     private final int most;
     private final int power;
@@ -46,14 +54,14 @@ public final class RandomRunsTest {
                 System.out.println("kind " + i + " of event came only " + seen[i] + " times");
             }
         }
-        System.out.println(wrong == 0 ? "random runs agree: " + java.util.Arrays.toString(seen) : wrong + " wrong");
+        System.out.println(wrong == 0 ? "random runs agree: " + Arrays.toString(seen) : wrong + " wrong");
         System.exit(wrong == 0 ? 0 : 1);
     }
 
     private void play(int seed) {
         for (int i = 0; i < CALLS; i++) {
             String difference = playOne();
-            if (difference == null) {
+            if (difference == null && i % BETWEEN_QUESTIONS == 0) {
                 difference = compareAll();
             }
             if (difference == null) {
@@ -140,13 +148,17 @@ public final class RandomRunsTest {
 
     private String both(String call, Function<PlugTree, Number> real, Function<PlainTree, Number> due) {
         calls.add(call);
-        return compare(call, real, due);
+        played.add(real);
+        return new Question(call, real, due).compare(tree, plain);
     }
 
-    private String compare(String call, Function<PlugTree, Number> real, Function<PlainTree, Number> due) {
-        String got = answer(tree, real);
-        String want = answer(plain, due);
-        return got.equals(want) ? null : call + " answered " + got + ", due is " + want;
+    private record Question(String call, Function<PlugTree, Number> real, Function<PlainTree, Number> due) {
+        /** Null, or how the answers differ. */
+        String compare(PlugTree tree, PlainTree plain) {
+            String got = answer(tree, real);
+            String want = answer(plain, due);
+            return got.equals(want) ? null : call + " answered " + got + ", due is " + want;
+        }
     }
 
     private static <T> String answer(T object, Function<T, Number> call) {
@@ -158,39 +170,55 @@ public final class RandomRunsTest {
     }
 
     private String compareAll() {
-        List<String> found = new ArrayList<>();
+        PlugTree again = new PlugTree();
+        for (Function<PlugTree, Number> call : played) {
+            answer(again, call);
+        }
+        List<Question> questions = questions();
+        Collections.shuffle(questions, random);
+        for (Question q : questions.subList(0, Math.min(questions.size(), MOST_CALLS - played.size()))) {
+            String difference = q.compare(again, plain);
+            if (difference != null) {
+                return difference;
+            }
+        }
+        return null;
+    }
+
+    private List<Question> questions() {
+        List<Question> all = new ArrayList<>();
         // Numbers just outside are asked for now and then: exceptions are what takes the time here.
-        int out = calls.size() % 20 == 0 ? 1 : 0;
+        int out = random.nextInt(10) == 0 ? 1 : 0;
         for (int i = -out; i < plain.bridgeCount() + out; i++) {
             int b = i;
-            found.add(compare("opening(" + b + ", false)", x -> x.opening(b, false), x -> x.opening(b, false)));
-            found.add(compare("opening(" + b + ", true)", x -> x.opening(b, true), x -> x.opening(b, true)));
-            found.add(compare("power(" + b + ")", x -> x.power(b), x -> x.power(b)));
+            all.add(new Question("opening(" + b + ", false)", x -> x.opening(b, false), x -> x.opening(b, false)));
+            all.add(new Question("opening(" + b + ", true)", x -> x.opening(b, true), x -> x.opening(b, true)));
+            all.add(new Question("power(" + b + ")", x -> x.power(b), x -> x.power(b)));
             for (int j = -out; j < 4 + out; j++) {
                 int s = j;
-                found.add(compare("slot(" + b + ", " + s + ")", x -> x.slot(b, s), x -> x.slot(b, s)));
+                all.add(new Question("slot(" + b + ", " + s + ")", x -> x.slot(b, s), x -> x.slot(b, s)));
             }
         }
         for (int i = -out; i < plain.cardCount() + out; i++) {
             int c = i;
             for (int j = -out; j < 4 + out; j++) {
                 int k = j;
-                found.add(compare("card(" + c + ", " + k + ")", x -> x.card(c, k), x -> x.card(c, k)));
+                all.add(new Question("card(" + c + ", " + k + ")", x -> x.card(c, k), x -> x.card(c, k)));
             }
             for (int j = -out; j < 3 + out; j++) {
                 int k = j;
-                found.add(compare("range(" + c + ", " + k + ")", x -> x.range(c, k), x -> x.range(c, k)));
+                all.add(new Question("range(" + c + ", " + k + ")", x -> x.range(c, k), x -> x.range(c, k)));
             }
         }
         for (int i = -out; i < plain.ticketCount() + out; i++) {
             int t = i;
-            found.add(compare("result(" + t + ")", x -> x.result(t), x -> x.result(t)));
+            all.add(new Question("result(" + t + ")", x -> x.result(t), x -> x.result(t)));
         }
         for (int i = 0; i < 20; i++) {
             int a = random.nextInt(4200) - 50;
-            found.add(compare("decode(" + a + ")", x -> x.decode(a), x -> x.decode(a)));
+            all.add(new Question("decode(" + a + ")", x -> x.decode(a), x -> x.decode(a)));
         }
-        found.add(compare("moved()", PlugTree::moved, PlainTree::moved));
-        return found.stream().filter(d -> d != null).findFirst().orElse(null);
+        all.add(new Question("moved()", PlugTree::moved, PlainTree::moved));
+        return all;
     }
 }
