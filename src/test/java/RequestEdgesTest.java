@@ -8,6 +8,7 @@ public final class RequestEdgesTest {
 
     public static void main(String[] args) {
         ticketsAreNumberedFrom0();
+        ticketsUpToTheLastCall();
         atMost8();
         atMost8OfEachCard();
         aPausedOneTakesRequests();
@@ -56,6 +57,34 @@ public final class RequestEdgesTest {
         Check.due("31 * 1 + 3", 34, x.result(3));
         x.pull(0);
         Check.due("tickets go on", 100, x.request(1, 0, 0));
+    }
+
+    private static void ticketsUpToTheLastCall() {
+        Check.sentence("An object is used for at most 512 calls");
+        PlugTree x = twoCards();
+        int number = 0;
+        for (int t = 0; t < 250; t++) {
+            Check.due("ticket", t, x.request(0, 8, t));
+            Check.due("its piece", true, x.work(0));
+            number = 31 * number + t;
+        }
+        Check.due("the last result", number + 8, x.result(249));
+        Check.due("the first result", 8, x.result(0));
+        // Tickets without work: forty cards are pulled with 8 requests each.
+        PlugTree y = new PlugTree();
+        y.type(-1, -1, -1, 0, true);
+        for (int t = 0; t < 320; t++) {
+            if (t % 8 == 0) {
+                y.plug(0, 0, 0);
+                y.step();
+            }
+            Check.due("ticket", t, y.request(t / 8, 0, 0));
+            if (t % 8 == 7) {
+                Check.due("lost", 8, y.pull(t / 8));
+            }
+        }
+        Check.due("the last one", PlugTree.LOST, y.result(319));
+        Check.thrown("no more", Check.ARGUMENT, () -> y.result(320));
     }
 
     private static void atMost8() {

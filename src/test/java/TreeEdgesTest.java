@@ -15,6 +15,7 @@ public final class TreeEdgesTest {
         depthIsAtMost4();
         limitsAre0To1000();
         typesAreNumbered0To15();
+        typesAreTakenAtAnyTime();
         sizesAre0And1To1024();
         sizesComeInAnyOrder();
         powersAre0To1000();
@@ -247,6 +248,18 @@ public final class TreeEdgesTest {
             Check.due("the power of type " + t, t + 1, x.power(0));
             x.pull(card);
         }
+    }
+
+    private static void typesAreTakenAtAnyTime() {
+        Check.sentence("type: IllegalStateException: there are 16 (and for nothing else)");
+        Check.due("in a new object", 0, new PlugTree().type(0, 0, 0, 0, true));
+        Check.due("while a card is NEW", 4, Scenes.unchecked().type(0, 0, 0, 0, true));
+        Check.due("with 8 bridges", 0, Scenes.eightBridges().type(0, 0, 0, 0, true));
+        Check.due("with 40 cards", 3, Scenes.fortyCards().type(0, 0, 0, 0, true));
+        PlugTree x = Scenes.checked();
+        Check.due("while one is CHECKED", 4, x.type(0, 0, 0, 1, true));
+        Check.due("which stays CHECKED", false, x.step());
+        Check.due("the others stay PAUSED", PlugTree.PAUSED, x.card(0, 0));
     }
 
     private static void sizesAre0And1To1024() {
