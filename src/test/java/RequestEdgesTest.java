@@ -145,8 +145,8 @@ public final class RequestEdgesTest {
 
     private static void opModulo8And1Pieces() {
         Check.sentence("the first one is started, with op modulo 8, and 1, pieces");
-        int[] ops = {0, 1, 6, 7, 8, 9, 15, 16, 17, 1 << 30, MOST - 7, MOST - 1, MOST};
-        int[] pieces = {1, 2, 7, 8, 1, 2, 8, 1, 2, 1, 1, 7, 8};
+        int[] ops = {0, 1, 6, 7, 8, 9, 15, 16, 17, 255, 256, (1 << 29) + 5, 1 << 30, MOST - 7, MOST - 1, MOST};
+        int[] pieces = {1, 2, 7, 8, 1, 2, 8, 1, 2, 8, 1, 6, 1, 1, 7, 8};
         for (int i = 0; i < ops.length; i++) {
             PlugTree x = twoCards();
             x.request(0, ops[i], 0);

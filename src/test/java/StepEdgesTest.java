@@ -13,11 +13,13 @@ public final class StepEdgesTest {
         powerOfThoseThereAlone();
         powerComesFirst();
         refusedForPower();
+        refusedForPowerBeforeGrowing();
         fittingTheGreatestFirst();
         fittingIntoAHoleJustAsLarge();
         fittingIntoTheSmallestHole();
         fittingIntoTheFirstOfHolesOfTheSameSize();
         fittingNeedsAPlaceInTheHole();
+        fittingMeasuresTheWholeHole();
         fittingAtTheFirstMultiple();
         fittingOneAfterTheOther();
         fittingUpToTheLastAddress();
@@ -29,6 +31,7 @@ public final class StepEdgesTest {
         growingUpToARange();
         growingUpToAnOpening();
         growingKeepsTheBeginning();
+        growingFromWhatCardsLeft();
         growingFillsHolesToo();
         growingNotInAnEmptyOpeningAbove();
         openingFromTheBeginningOfTheOneAbove();
@@ -235,6 +238,21 @@ public final class StepEdgesTest {
         Check.due("the next one can be plugged", 2, x.plug(4, 1, 0));
     }
 
+    private static void refusedForPowerBeforeGrowing() {
+        Check.sentence("REFUSED, for POWER. Otherwise .. GROWING");
+        PlugTree x = new PlugTree();
+        x.type(6, -1, -1, 1, true);
+        x.type(6, -1, -1, 1000, true);
+        x.bridge(0, 0, 1000);
+        x.bridge(0, 1, 1000);
+        Scenes.settled(x, 1, 0, 0);
+        Check.due("in an opening that could grow", PlugTree.POWER, refusal(x, 1, 1, 1));
+        checkOpening("it stays", x, 1, 0, 64);
+        Check.due("in an EMPTY one", PlugTree.POWER, refusal(x, 2, 0, 1));
+        checkOpening("it stays", x, 2, 0, 0);
+        Check.due("the next one has that place", 64, x.range(Scenes.settled(x, 0, 2, 0), 0));
+    }
+
     private static void fittingTheGreatestFirst() {
         Check.sentence("its ranges, the greatest first (of the same size by their numbers)");
         int[][] exponents = {{2, 10, 2}, {4, 4, 5}, {4, 5, 4}, {5, 4, 5}, {4, 5, 5}, {3, 3, 3}, {0, -1, 1}};
@@ -322,6 +340,29 @@ public final class StepEdgesTest {
         Check.due("256 in the hole that has a place", 768, x.range(Scenes.settled(x, 0, 1, 2), 0));
         x.pull(4);
         Check.due("128 in the first one", 128, x.range(Scenes.settled(x, 0, 1, 0), 0));
+    }
+
+    private static void fittingMeasuresTheWholeHole() {
+        Check.sentence("into the smallest HOLE (not into that with the least behind its place)");
+        PlugTree x = new PlugTree();
+        x.type(0, -1, -1, 0, true);
+        x.type(1, 0, -1, 0, true);
+        x.type(2, -1, -1, 0, true);
+        x.type(1, -1, -1, 0, true);
+        x.type(2, 1, -1, 0, true);
+        for (int t = 0; t < 4; t++) {
+            Scenes.settled(x, 0, t, t);
+        }
+        x.pull(2);
+        Scenes.settled(x, 0, 2, 4);
+        x.pull(1);
+        x.pull(3);
+        // Holes: 1 to 4, with a place for 2 addresses at its end; 8 to 10; from 12 on.
+        int first = Scenes.settled(x, 0, 1, 3);
+        Check.due("2 addresses in the hole of 2", 8, x.range(first, 0));
+        Check.due("2 more in the hole of 3", 2, x.range(Scenes.settled(x, 0, 3, 3), 0));
+        x.pull(first);
+        Check.due("one in what is left of that", 1, x.range(Scenes.settled(x, 0, 1, 0), 0));
     }
 
     private static void fittingAtTheFirstMultiple() {
@@ -564,6 +605,23 @@ public final class StepEdgesTest {
         x.pull(2);
         Check.due("up", PlugTree.WORKING, stateOf(x, 1, 0, 1));
         checkOpening("it has grown", x, 1, 64, 256);
+    }
+
+    private static void growingFromWhatCardsLeft() {
+        Check.sentence("the end of its opening goes up .. until fitting goes (in the whole opening)");
+        PlugTree x = new PlugTree();
+        x.type(6, -1, -1, 0, true);
+        x.type(7, -1, -1, 0, true);
+        x.bridge(0, 0, 1000);
+        Scenes.settled(x, 1, 0, 0);
+        x.leave(0);
+        Check.due("GONE", true, x.step());
+        checkOpening("when its only card has left it stays", x, 1, 0, 64);
+        Scenes.settled(x, 1, 1, 1);
+        checkOpening("128 lie in the old 64 and the new", x, 1, 0, 128);
+        Check.due("their beginning", 0, x.range(1, 0));
+        x.pull(1);
+        checkOpening("when its only card is pulled it stays", x, 1, 0, 128);
     }
 
     private static void growingFillsHolesToo() {
@@ -843,6 +901,8 @@ public final class StepEdgesTest {
         Check.due("ranges stay", 1024, x.range(2, 0));
         Check.due("powers stay", 2, x.power(0));
         Check.due("it stays in its slot", 107, x.slot(0, 2));
+        Check.due("so do those PAUSED", 100, x.slot(0, 0));
+        Check.due("and the one that is LEAVING", 106, x.slot(1, 3));
     }
 
     private static void checkedWithNoCardThere() {

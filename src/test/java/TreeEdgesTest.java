@@ -15,6 +15,7 @@ public final class TreeEdgesTest {
         depthIsAtMost4();
         limitsAre0To1000();
         typesAreNumbered0To15();
+        eachTypeHasWhatItWasGiven();
         typesAreTakenAtAnyTime();
         sizesAre0And1To1024();
         sizesComeInAnyOrder();
@@ -247,6 +248,29 @@ public final class TreeEdgesTest {
             int card = Scenes.settled(x, 0, t % 4, t);
             Check.due("the power of type " + t, t + 1, x.power(0));
             x.pull(card);
+        }
+    }
+
+    private static void eachTypeHasWhatItWasGiven() {
+        Check.sentence("each has three SIZES, a POWER, and whether its cards can PAUSE");
+        for (int t = 0; t < 16; t++) {
+            PlugTree x = new PlugTree();
+            for (int other = 0; other < 16; other++) {
+                x.type(other == t ? 9 : -1, -1, other == t ? 3 : -1, other == t ? 5 : 0, other != t);
+            }
+            int last = (t + 1) % 16;
+            Scenes.settled(x, 0, 0, t);
+            Scenes.settled(x, 0, 1, last);
+            Check.due("power of type " + t + " alone", 5, x.power(0));
+            Check.due("512 of type " + t, 0, x.decode(511));
+            Check.due("8 of type " + t, 512, x.range(0, 2));
+            Check.due("no range of the next", PlugTree.NONE, x.range(1, 0));
+            // Two bridges deep a card has a place only when all is moved.
+            x.bridge(0, 2, 1000);
+            x.bridge(1, 0, 1000);
+            Check.due("type " + t + " cannot pause", PlugTree.NEIGHBOUR, x.card(Scenes.settled(x, 2, 0, t), 1));
+            x.pull(0);
+            Check.due("the next can", PlugTree.WORKING, x.card(Scenes.settled(x, 2, 0, t), 0));
         }
     }
 
